@@ -367,13 +367,12 @@ public final class BlockBells {
             this.number = number;
         }
 
-        void reset(boolean isSingle) {
+        void layOut(boolean isSingle) {
             single = isSingle;
             runningTime = FIRST_RUNNING_TIME;
             // A double section has no machines; with no tokens it answers 0 for them.
             lowerTokens = isSingle ? FIRST_TOKENS : 0;
             higherTokens = lowerTokens;
-            tokenOut = false;
         }
 
         void copyFrom(Section other) {
@@ -538,13 +537,13 @@ public final class BlockBells {
 
         Train(int number) {
             this.number = number;
-            where = GONE;
         }
 
         void start(int newKind, int newDirection, int box, int time) {
             kind = newKind;
             direction = newDirection;
             standAt(ON_LINE, box);
+            ticksLeft = 0;
             whole = true;
             appearedAt = time;
             leftAt = NONE;
@@ -582,7 +581,6 @@ public final class BlockBells {
         void standAt(int newWhere, int box) {
             where = newWhere;
             place = box;
-            ticksLeft = 0;
         }
 
         void enter(Section section) {
@@ -594,7 +592,6 @@ public final class BlockBells {
         void go(int time) {
             where = GONE;
             place = NONE;
-            ticksLeft = 0;
             leftAt = time;
         }
 
@@ -690,7 +687,7 @@ public final class BlockBells {
         void layOut(int newBoxes, int singles) {
             boxes = newBoxes;
             for (int i = 0; i < MAX_SECTIONS; i++) {
-                sections[i].reset((singles >> i & 1) == 1);
+                sections[i].layOut((singles >> i & 1) == 1);
             }
             for (int i = 0; i < 2 * MAX_BOXES; i++) {
                 loops[i] = FIRST_LOOPS;

@@ -85,6 +85,8 @@ public final class AutomaticTest {
             + "capacity(1, 0, 300) = 7; capacity(1, 1, 300) = 3; appear(1, 0) = 0; work(6) = 0; section(1, 4) = 1;"
             + "section(1, 2) = 6; capacity(1, 0, 300) = 6; capacity(1, 1, 300) = 3; section(1, 4) = 1; section(1, 2) = 6;"
             + "moveTokens(1, 6) = 0; capacity(1, 0, 300) = 0; capacity(1, 1, 300) = 9");
+        Script.run("27 token out of the first section", "setUp(2, 1) = 0; appear(1, 0) = 0; offer(0) = 4;"
+            + "answer(0, 0, yes) = 4; capacity(1, 0, 300) = 4; capacity(1, 1, 300) = 5; section(0, 4) = 1");
         Script.run("27 classes", "setUp(2, 0) = 0; capacity(1, 0, 6) = 1; capacity(2, 0, 6) = 0; capacity(2, 0, 7) = 1;"
             + "capacity(5, 0, 9) = 0; capacity(5, 0, 10) = 1; setTime(0, 30) = 5; capacity(5, 0, 34) = 0;"
             + "capacity(5, 0, 35) = 1");

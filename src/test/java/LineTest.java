@@ -43,6 +43,8 @@ public final class LineTest {
             + "block(0, 0, 2) = NONE; block(0, 0, 4) = 0; block(2, 1, 1) = NONE; signal(0, 0) = NONE; rung(4, -1) = 0;"
             + "train(0, 0) = NO_SUCH; fault() = NONE; appear(5, 0) = 0; train(0, 0) = 5; train(0, 5) = 1;"
             + "train(0, 6) = 0; restore(1) = 7; count(1) = 2; restore(0) = NOT_POSSIBLE; setUp(2, 0) = 2");
+        Script.run("2 train that was running", "appear(5, 0) = 0; offer(0) = 41; answer(0, 0, yes) = 41; depart(0) = 9;"
+            + "setUp(3, 0) = 1; appear(1, 1) = 0; train(0, 2) = ON_LINE; train(0, 3) = 2; train(0, 4) = 0");
         Script.run("2 tokens", "setUp(2, 1) = 0; moveTokens(0, 3) = 2; setUp(2, 1) = 0; section(0, 2) = 5;"
             + "section(0, 3) = 5; appear(1, 0) = 0; offer(0) = 4; answer(0, 0, yes) = 4; section(0, 4) = 1;"
             + "setUp(2, 1) = 1; section(0, 4) = 0; section(0, 2) = 5");

@@ -51,6 +51,9 @@ public final class SavingTest {
         Script.run("34 the copy is apart", "appear(1, 0) = 0; save(0) = 0; restore(0) = 0; work(5) = 0; setTime(0, 9) = 5;"
             + "restore(0) = 0; train(0, 2) = ON_LINE; section(0, 1) = 5; count(4) = 0; signal(0, 0) = NONE;"
             + "offer(0) = 4; count(4) = 1; restore(0) = 0; count(9) = 0; count(4) = 0");
+        Script.run("34 times of trains", "setUp(2, 0) = 0; pass(3) = 3; appear(1, 0) = 0; work(6) = 1; appear(1, 1) = 1;"
+            + "save(1) = 9; setUp(3, 0) = 2; appear(2, 0) = 0; appear(2, 1) = 1; work(20) = 2; restore(1) = 9;"
+            + "train(0, 6) = 3; train(0, 7) = 8; train(0, 2) = GONE; train(1, 6) = 9; train(1, 7) = NONE; train(1, 0) = 1");
         Script.run("34 trains appear anew", "appear(1, 0) = 0; save(0) = 0; appear(5, 1) = 1; restore(0) = 0;"
             + "train(1, 0) = NO_SUCH; pass(2) = 2; appear(3, 1) = 1; train(1, 0) = 3; train(1, 6) = 2");
     }

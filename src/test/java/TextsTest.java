@@ -102,6 +102,8 @@ public final class TextsTest {
             .write("s0,s0,o0,y1+,d0,t4,t1,a1+,l0").then("carryOut() = 9; train(0, 2) = GONE; train(0, 7) = 10");
         new Script("31 direction 1").then("setUp(2, 0) = 0; appear(1, 1) = 0").write("o0,y0-,d0,t99,a0-,u0-,l0")
             .then("carryOut() = 7; count(2) = 1; count(0) = 99");
+        new Script("31 both directions").then("setUp(2, 0) = 0; appear(1, 1) = 0; appear(1, 0) = 1")
+            .write("o0,o1,y0-,n0+,d0,o1,y0+,c0+").then("carryOut() = 8; signal(3, 2) = 0; signal(6, 2) = 0; signal(7, 2) = 0");
         new Script("31 engine").then("appear(1, 0) = 0").write("o0,y0+,d0").then("carryOut() = 3; divide(0) = 0")
             .write("t5,a0+,e0+,t10,u0+,e0+,t1").then("carryOut() = 5; count(0) = 15; rung(22, 0) = 1; rung(21, 0) = 1");
         new Script("31 until one fails").then("appear(1, 0) = 0").write("o0,o0,y0+").then("carryOut() = 1; count(7) = 0;"

@@ -69,6 +69,10 @@ public final class TrainsTest {
             + "answer(2, 1, yes) = 4; depart(1) = 5; pass(5) = 10; admit(2, 1) = 1; offer(1) = 4; answer(1, 1, yes) = 4;"
             + "depart(1) = 5; shunt(0) = ON_LINE; offer(0) = 4; answer(1, 0, yes) = 4; depart(0) = 5; appear(1, 0) = 2;"
             + "shunt(2) = IN_LOOP; shunt(2) = ON_LINE");
+        Script.run("10 loops of each direction", "setUp(2, 0) = 0; setLoops(1, 0, 0) = 1; setLoops(0, 1, 0) = 1;"
+            + "appear(1, 0) = 0; appear(1, 1) = 1; shunt(0) = IN_LOOP; shunt(1) = IN_LOOP; shunt(0) = ON_LINE;"
+            + "shunt(1) = ON_LINE; setLoops(1, 1, 0) = 1; shunt(1) = NOT_POSSIBLE; shunt(0) = IN_LOOP;"
+            + "setLoops(1, 1, 2) = 0; shunt(1) = IN_LOOP; appear(1, 1) = 2; shunt(2) = IN_LOOP");
         Script.run("10 direction 1", "setUp(3, 0) = 0; appear(1, 1) = 0; shunt(0) = IN_LOOP; shunt(0) = ON_LINE; offer(0) = 4;"
             + "answer(1, 1, yes) = 4; depart(0) = 5; pass(5) = 5; admit(1, 1) = 0; shunt(0) = IN_LOOP;"
             + "shunt(0) = NOT_POSSIBLE; out(1, 1) = 21; shunt(0) = ON_LINE");
