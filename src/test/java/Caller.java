@@ -47,6 +47,10 @@ final class Caller {
                 note(all, "block", s, 1, what);
             }
         }
+        for (int box = 0; box < call("count", 6); box++) {
+            noteLoops(all, box, 0);
+            noteLoops(all, box, 1);
+        }
         for (int train = 0; train < 12; train++) {
             for (int what = 0; what < 8; what++) {
                 note(all, "train", train, what);
@@ -63,6 +67,13 @@ final class Caller {
         }
         note(all, "fault");
         return all;
+    }
+
+    /** The face tells the number of loops only when it is changed, so it is changed and set back. */
+    private void noteLoops(List<String> all, int box, int direction) {
+        int loops = call("setLoops", box, direction, 3);
+        call("setLoops", box, direction, loops);
+        all.add("loops[" + box + ", " + direction + "]=" + loops);
     }
 
     private void note(List<String> all, String name, int... numbers) {

@@ -3,15 +3,18 @@ import java.util.List;
 
 /**
  * A run of calls on a new object with the answers that are due, such as "appear(1, 0) = 0; offer(0) = 4".
- * An answer may be one of the document's constants. The model is held to the same answers, and a call that
- * answers an error is held to change nothing.
+ * An answer may be one of the document's constants, and "last 5 0 1 0 21" tells the latest signal. The model is
+ * held to the same answers, and a call that answers an error is held to change nothing.
  */
 final class Script {
     private static int wrong = 0;
 
     private final String title;
     private final Caller program = new Caller(new BlockBells());
+    // Does the same calls, and between them those that tell its state: the program itself gets the script's calls alone.
+    private final Caller watched = new Caller(new BlockBells());
     private final Caller model = new Caller(new Model());
+    private int calls = 0;
 
     Script(String title) {
         this.title = title;
@@ -23,21 +26,61 @@ final class Script {
     }
 
     Script then(String calls) {
-        for (String call : calls.split(";")) {
-            if (!call.isBlank()) {
-                runCall(call.strip());
+        for (String part : calls.split(";")) {
+            String call = part.strip();
+            if (call.startsWith("last ")) {
+                last(call.substring(5));
+            } else if (!call.isEmpty()) {
+                runCall(call);
             }
         }
         return this;
     }
 
-    /** Puts a text on the pad. */
+    /** Runs a line of a file: "write" with a text, "until" with a time, a number with "x" and calls, or calls. */
+    void line(String line) {
+        if (line.startsWith("write ")) {
+            write(line.substring(6));
+        } else if (line.startsWith("until ")) {
+            until(Integer.parseInt(line.substring(6)));
+        } else if (line.matches("[0-9]+ x .*")) {
+            int space = line.indexOf(' ');
+            times(Integer.parseInt(line.substring(0, space)), line.substring(space + 3));
+        } else {
+            then(line);
+        }
+    }
+
+    /** The number of calls that the program got. */
+    int calls() {
+        return calls;
+    }
+
+    /** Puts a text on the pad, and holds it to be put there as long as the pad has room. */
     Script write(String text) {
-        for (char sign : text.toCharArray()) {
-            program.call("say", sign);
-            model.call("say", sign);
+        int length = model.call("count", 7);
+        for (int i = 0; i < text.length(); i++) {
+            runCall("say(" + (int) text.charAt(i) + ") = " + (length + i + 1));
         }
         return this;
+    }
+
+    /** Lets the time pass by thousands. */
+    Script until(int time) {
+        for (int now = model.call("count", 0) + 1000; now <= time; now += 1000) {
+            runCall("pass(1000) = " + now);
+        }
+        return this;
+    }
+
+    /** That the latest signal has these properties: time, section, direction, box and code. */
+    private void last(String properties) {
+        String[] words = properties.split(" ");
+        int signal = model.call("count", 4) - 1;
+        for (int what = 0; what < 5; what++) {
+            runCall("signal(" + signal + ", " + what + ") = " + words[what]);
+        }
+        runCall("count(4) = " + (signal + 1));
     }
 
     /** Does the same calls some times. */
@@ -61,10 +104,16 @@ final class Script {
         String name = line.substring(0, open).strip();
         int[] numbers = numbers(line.substring(open + 1, close));
         int due = number(line.substring(line.indexOf('=', close) + 1).strip());
-        List<String> before = isError(due) ? program.state() : new ArrayList<>();
+        calls++;
         compare(line, program.call(name, numbers), due);
         compare(line + " (by the model)", model.call(name, numbers), due);
-        if (isError(due) && !before.equals(program.state())) {
+        watch(line, name, numbers, isError(due));
+    }
+
+    private void watch(String line, String name, int[] numbers, boolean hasToFail) {
+        List<String> before = hasToFail ? watched.state() : new ArrayList<>();
+        watched.call(name, numbers);
+        if (hasToFail && !before.equals(watched.state())) {
             complain(line + " failed, but changed something");
         }
     }

@@ -182,10 +182,7 @@ public final class WorkingTest {
             + "pass(MOST) = BAD_VALUE; pass(1) = 1; pass(1000) = 1001; appear(3, 0) = 0; offer(0) = 5;"
             + "answer(0, 0, yes) = 5; pass(3) = 1004; depart(0) = 7; pass(3) = 1007; train(0, 4) = 4; pass(1000) = 2007;"
             + "train(0, 4) = 0; count(0) = 2007");
-        Script late = new Script("22 latest time");
-        for (int i = 1; i < 1000; i++) {
-            late.then("pass(1000) = " + 1000 * i);
-        }
+        Script late = new Script("22 latest time").until(999000);
         late.then("appear(1, 0) = 0; work(1) = 0; pass(1000) = NOT_POSSIBLE; pass(1001) = BAD_VALUE; pass(998) = 999999;"
             + "pass(2) = NOT_POSSIBLE; work(2) = NOT_POSSIBLE; work(301) = BAD_VALUE; forecast(0, 500) = 11;"
             + "capacity(1, 0, 22) = 2; save(0) = 999999")
