@@ -98,12 +98,32 @@ final class Script {
         }
     }
 
+    /** Makes the calls of a script on an object, which has to answer as the script tells. */
+    static void prepare(Caller subject, String calls) {
+        for (String part : calls.split(";")) {
+            String call = part.strip();
+            if (!call.isEmpty() && subject.call(name(call), arguments(call)) != due(call)) {
+                throw new IllegalStateException(call + " is not what it answered");
+            }
+        }
+    }
+
+    private static String name(String call) {
+        return call.substring(0, call.indexOf('('));
+    }
+
+    private static int[] arguments(String call) {
+        return numbers(call.substring(call.indexOf('(') + 1, call.indexOf(')')));
+    }
+
+    private static int due(String call) {
+        return number(call.substring(call.indexOf('=') + 1).strip());
+    }
+
     private void runCall(String line) {
-        int open = line.indexOf('(');
-        int close = line.indexOf(')');
-        String name = line.substring(0, open).strip();
-        int[] numbers = numbers(line.substring(open + 1, close));
-        int due = number(line.substring(line.indexOf('=', close) + 1).strip());
+        String name = name(line);
+        int[] numbers = arguments(line);
+        int due = due(line);
         calls++;
         compare(line, program.call(name, numbers), due);
         compare(line + " (by the model)", model.call(name, numbers), due);
